@@ -808,11 +808,12 @@ public final class TrickFinder {
                 return readNumber();
             }
             int op = operationOf(b, 0, ONE_ARGUMENT_OPERATIONS);
-            if (b != '(' && op == NONE || depth >= MOST_DEPTH) {
+            boolean opensBracket = b == '(';
+            if ((!opensBracket && op == NONE) || depth >= MOST_DEPTH) {
                 return failAt(place);
             }
             place++;
-            return b == '(' ? readEnclosed(depth + 1) : Functions.made(op, readPart(depth + 1), 0);
+            return opensBracket ? readEnclosed(depth + 1) : Functions.made(op, readPart(depth + 1), 0);
         }
 
         private long readEnclosed(int depth) {
