@@ -683,8 +683,8 @@ public final class TrickFinder {
             }
         }
 
-        // Each level has an operation, and each operation has a price: so the cost bounds the depth.
-        void putEntry(Row row, int entry, int depth) {
+        // Each level has an operation, and each operation costs at least 1: so the cost bounds the depth.
+        private void putEntry(Row row, int entry, int depth) {
             if (!row.has(entry) || depth > MOST_COST) {
                 return;
             }
