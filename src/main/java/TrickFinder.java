@@ -631,7 +631,7 @@ public final class TrickFinder {
 
         int countParts(int entry) {
             int found = withPart(0, entry);
-            for (int k = 0; k < found; k++) {
+            for (int k = 0; k < found && k < MOST_PARTS; k++) {
                 int part = partsFound[k];
                 if (operations[part] >= 0) {
                     found = withPart(found, firsts[part]);

@@ -29,31 +29,10 @@ final class FormulasTest {
         CHECK.finish();
     }
 
-    private static void feedText(TrickFinder finder, String text) {
-        for (int k = 0; k < text.length(); k += 20) {
-            int[] n = new int[5];
-            for (int i = 0; i < 20; i++) {
-                n[i / 4] = n[i / 4] << 8 | (k + i < text.length() ? text.charAt(k + i) : ' ');
-            }
-            finder.feed(n[0], n[1], n[2], n[3], n[4]);
-        }
-        finder.trim(text.length());
-    }
-
-    private static String paperOf(TrickFinder finder, int length) {
-        StringBuilder text = new StringBuilder();
-        for (int k = 0; k < length; k++) {
-            text.append((char) finder.byteAt(k));
-        }
-        return text.toString();
-    }
-
     private static void checkWritten(TrickFinder finder, int entry, String due) {
-        int length = finder.write(entry);
-        CHECK.same("write(" + entry + ") of " + due, length, due.length());
-        String got = paperOf(finder, length);
+        String got = Finders.writtenBy(finder, entry);
         CHECK.isTrue("write(" + entry + ") wrote " + got + ", due is " + due + ":", got.equals(due));
-        CHECK.isRefused("byteAt(" + length + ")", finder, NO_INDEX, () -> finder.byteAt(length));
+        CHECK.isRefused("byteAt(" + due.length() + ")", finder, NO_INDEX, () -> finder.byteAt(due.length()));
     }
 
     private static void checkWrite() {
@@ -138,16 +117,10 @@ final class FormulasTest {
     }
 
     private static void checkWrittenIsReadAgain() {
-        TrickFinder finder = new TrickFinder();
-        finder.allow(9, true);
-        for (int value = 0; value < 16; value += 3) {
-            finder.setConstant(value, true);
-        }
-        finder.setPrice(10, 0);
-        finder.search(6);
-        for (int e = 0; e < finder.entries(); e += 7) {
-            feedText(finder, paperOf(finder, finder.write(e)));
-            CHECK.same("read() of entry " + e, finder.read(), -1);
+        for (int e = 0; e < 2000; e += 7) {
+            TrickFinder finder = Finders.full();
+            finder.read();
+            CHECK.same("read() of entry " + e, Finders.readText(finder, Finders.writtenBy(finder, e)), -1);
             CHECK.same("result() of entry " + e, finder.result(), finder.function(e));
         }
     }
@@ -190,7 +163,7 @@ final class FormulasTest {
 
     private static void checkTrim() {
         TrickFinder finder = new TrickFinder();
-        feedText(finder, "x+1+x");
+        Finders.feedText(finder, "x+1+x");
         CHECK.isRefused("trim(6)", finder, NO_ARGUMENT, () -> finder.trim(6));
         CHECK.isRefused("trim(-1)", finder, NO_ARGUMENT, () -> finder.trim(-1));
         CHECK.isRefused("trim(least)", finder, NO_ARGUMENT, () -> finder.trim(Integer.MIN_VALUE));
@@ -206,18 +179,15 @@ final class FormulasTest {
 
     private static void checkRead(String text, long function) {
         TrickFinder finder = new TrickFinder();
-        feedText(finder, text);
-        CHECK.same("read() of " + text, finder.read(), -1);
+        CHECK.same("read() of " + text, Finders.readText(finder, text), -1);
         CHECK.same("result() of " + text, finder.result(), function);
         CHECK.same("the tape behind " + text, finder.feed(0, 0, 0, 0, 0), 20);
     }
 
     private static void checkError(String text, int place) {
         TrickFinder finder = new TrickFinder();
-        feedText(finder, "x");
-        finder.read();
-        feedText(finder, text);
-        CHECK.same("read() of " + text, finder.read(), place);
+        Finders.readText(finder, "x");
+        CHECK.same("read() of " + text, Finders.readText(finder, text), place);
         CHECK.same("result() behind " + text, finder.result(), X);
         CHECK.same("the tape behind " + text, finder.feed(0, 0, 0, 0, 0), 20);
     }
@@ -365,21 +335,21 @@ final class FormulasTest {
     private static void checkResult() {
         TrickFinder finder = new TrickFinder();
         CHECK.same("result() at first", finder.result(), 0);
-        feedText(finder, "x+");
+        Finders.feedText(finder, "x+");
         finder.read();
         CHECK.same("result() behind an error alone", finder.result(), 0);
         for (int op = 0; op < 10; op++) {
             finder.allow(op, false);
         }
         finder.setConstant(1, false);
-        feedText(finder, "x+1");
+        Finders.feedText(finder, "x+1");
         finder.read();
         CHECK.same("result() with what is not allowed", finder.result(), 0x0FEDCBA987654321L);
-        feedText(finder, "x*7");
+        Finders.feedText(finder, "x*7");
         CHECK.same("result() ahead of read()", finder.result(), 0x0FEDCBA987654321L);
         finder.read();
         CHECK.same("result() of x*7", finder.result(), finder.apply(9, X, 7 * ONE));
-        feedText(finder, "x*7 7");
+        Finders.feedText(finder, "x*7 7");
         finder.read();
         CHECK.same("result() behind an error", finder.result(), finder.apply(9, X, 7 * ONE));
         CHECK.same("read() of the empty tape", finder.read(), 0);
@@ -404,9 +374,9 @@ final class FormulasTest {
         finder.setPrice(0, 3);
         finder.setPrice(10, 0);
         finder.setConstant(13, true);
-        feedText(finder, "3");
+        Finders.feedText(finder, "3");
         finder.read();
-        feedText(finder, "x+");
+        Finders.feedText(finder, "x+");
         finder.search(0);
         finder.write(2);
         d = summed(367, 3, 1, 1, 1, 1, 0, 1, 1, 1, 1, 1, 1, 1, 1, 1, 1, 1, 1, 1, 1);

@@ -4,14 +4,14 @@ import java.util.function.LongSupplier;
 /** Runs of calls from fixed seeds: the TrickFinder answers as the PlainFinder does. */
 final class RandomRunsTest {
     private static final int RUNS = 150;
-    private static final int CALLS = 512;
-    private static final long X = 0xFEDCBA9876543210L;
+    private static final long X = Finders.X;
 
     private final Check check = new Check("RandomRunsTest");
     private Random random;
     private TrickFinder fast;
     private PlainFinder plain;
-    private String run;
+    private int seed;
+    private int calls;
 
     public static void main(String[] args) {
         RandomRunsTest test = new RandomRunsTest();
@@ -21,17 +21,19 @@ final class RandomRunsTest {
         test.check.finish();
     }
 
-    private void compareRun(int seed) {
+    private void compareRun(int runSeed) {
+        seed = runSeed;
+        calls = 0;
         random = new Random(seed);
         fast = new TrickFinder();
         plain = new PlainFinder();
-        for (int call = 0; call < CALLS; call++) {
-            run = "run " + seed + ", call " + call + ": ";
+        for (int turn = 0; calls < Finders.MOST_CALLS - 1; turn++) {
             compareCall();
-            if (call % 64 == 63) {
+            if (turn % 64 == 63) {
                 both("digest()", () -> fast.digest(), () -> plain.digest());
             }
         }
+        compare("digest()", () -> fast.digest(), () -> plain.digest());
     }
 
     private static String answer(LongSupplier call) {
@@ -42,10 +44,19 @@ final class RandomRunsTest {
         }
     }
 
+    /** Compares the call of both, but for the last one that the document allows, which is digest(). */
     private void both(String call, LongSupplier got, LongSupplier want) {
+        if (calls < Finders.MOST_CALLS - 1) {
+            compare(call, got, want);
+        }
+    }
+
+    private void compare(String call, LongSupplier got, LongSupplier want) {
+        calls++;
         String due = answer(want);
         String answered = answer(got);
-        check.isTrue(run + call + " answered " + answered + ", due is " + due + ":", answered.equals(due));
+        String told = "run " + seed + ", call " + calls + ": " + call + " answered " + answered + ", due is " + due;
+        check.isTrue(told + ":", answered.equals(due));
     }
 
     private static long bit(boolean b) {
@@ -206,14 +217,10 @@ final class RandomRunsTest {
 
     private void readBoth(String text) {
         both("trim(0)", () -> fast.trim(0), () -> plain.trim(0));
-        int[] n = new int[75];
-        for (int k = 0; k < 300; k++) {
-            n[k / 4] = n[k / 4] << 8 | (k < text.length() ? text.charAt(k) : ' ');
-        }
-        for (int k = 0; k < 75 && 4 * k < text.length(); k += 5) {
-            int from = k;
-            both("feed", () -> fast.feed(n[from], n[from + 1], n[from + 2], n[from + 3], n[from + 4]),
-                    () -> plain.feed(n[from], n[from + 1], n[from + 2], n[from + 3], n[from + 4]));
+        for (int k = 0; k < text.length(); k += 20) {
+            int[] n = Finders.fiveNumbers(text, k);
+            both("feed", () -> fast.feed(n[0], n[1], n[2], n[3], n[4]),
+                    () -> plain.feed(n[0], n[1], n[2], n[3], n[4]));
         }
         both("trim", () -> fast.trim(text.length()), () -> plain.trim(text.length()));
         both("read() of '" + text + "'", () -> fast.read(), () -> plain.read());

